@@ -290,6 +290,7 @@ public final class PromisesTest {
             lost(640,0)=1 lostAt(0)=672 get(3)=16 lost(640,0)=1 again(16,4)=48 lost(48,640)=0
             """);
         RUNS.check("9 a long chain", longChain());
+        RUNS.check("9 a block that is reached in very many ways", chainOfBlocksThatLeadToThemselves());
     }
 
     /** Every block leads to the one made before it, so that the whole chain is followed downwards. */
@@ -306,6 +307,19 @@ public final class PromisesTest {
         run.append("lost(16,0)=").append(blocks - 1).append(' ');
         run.append("lostAt(").append(blocks - 2).append(")=").append(last);
         return run.toString();
+    }
+
+    /** The ways to a block double with each step, so each block must be followed only once. */
+    private static String chainOfBlocksThatLeadToThemselves() {
+        int blocks = 60;
+        StringBuilder run = new StringBuilder();
+        for (int i = 0; i < blocks; i++) {
+            int start = 16 + 32 * i;
+            run.append("get(8)=").append(start).append(' ');
+            run.append("write(").append(start).append(',').append(start).append(")=done ");
+            run.append("write(").append(start + 4).append(',').append(start + 32).append(")=done ");
+        }
+        return run.append("lost(16,0)=0 lost(48,0)=1").toString();
     }
 
     private static void promise10() {
