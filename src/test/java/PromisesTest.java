@@ -1,4 +1,7 @@
-/** Ordinary use of each promise; TermsEdgesTest and PromiseEdgesTest have the edges and the refused calls. */
+/**
+ * Ordinary use of each promise, and the example of README.md; TermsEdgesTest and PromiseEdgesTest have
+ * the edges and the refused calls.
+ */
 public final class PromisesTest {
     private static final Runs RUNS = new Runs();
 
@@ -29,6 +32,10 @@ public final class PromisesTest {
             get(20)=16 get(0)=64 get(7)=96 count(0)=3 count(1)=27 count(2)=0 count(3)=0 count(4)=3
             back(16)=20 count(0)=2 count(1)=7 count(2)=1 count(3)=20 count(4)=3
             again(96,9)=128 count(0)=2 count(1)=9 count(2)=2 count(3)=27 count(4)=4
+            """);
+        RUNS.check("the example of README.md", """
+            get(20)=16 get(8)=64 write(16,64)=done lost(16,0)=0 write(16,0)=done lost(16,0)=1 lostAt(0)=64
+            again(16,40)=96 block(135)=96 back(64)=8 kind(64)=2 count(2)=2
             """);
         RUNS.end();
     }
